@@ -36,8 +36,10 @@ final class Due {
     }
 
     /** A new law that is in force at once. */
-    static void inForce(HyphenWar x, String text) {
-        x.force(law(x, text));
+    void inForce(HyphenWar x, String text) {
+        int number = law(x, text);
+        is(13, "law() " + text, number, x.count(2) - 1);
+        x.force(number);
     }
 
     static int orders(HyphenWar x, String text) {

@@ -70,7 +70,7 @@ public final class FrontTest {
         DUE.is(3, "at(7, 2)", x.at(7, 2), 3);
         x.attack(1, 2);
         DUE.is(3, "at(2, 0)", x.at(2, 0), -1);
-        Due.inForce(x, "costs 7 if side = 0;costs 9 if side = 1 and column = 2;bars if side = 1 and column = 3;bars if side = 0 and column = 4");
+        DUE.inForce(x, "costs 7 if side = 0;costs 9 if side = 1 and column = 2;bars if side = 1 and column = 3;bars if side = 0 and column = 4");
         DUE.is(3, "at(2, 3)", x.at(2, 3), 7);
         DUE.is(3, "at(2, 4)", x.at(2, 4), 9);
         DUE.is(3, "at(3, 4)", x.at(3, 4), 5);
@@ -92,7 +92,7 @@ public final class FrontTest {
         x.sign(0, 1, 0, 11);
         x.attack(0, 0);
         x.show(0, 1);
-        Due.inForce(x, "feeds men if side = 0;feeds temper * 2 if side = 1");
+        DUE.inForce(x, "feeds men if side = 0;feeds temper * 2 if side = 1");
         int[][] due = {{45, 20, 99, 108}, {50, 31, 62, 5}};
         for (int side = 0; side < 2; side++) {
             for (int what = 0; what < 4; what++) {
@@ -153,7 +153,7 @@ public final class FrontTest {
         HyphenWar x = new HyphenWar();
         x.men(0, 0, 10);
         x.men(0, 1, 10);
-        Due.inForce(x, "costs supply if column = 0;costs supply + 1 if column = 1;bars if column = 2");
+        DUE.inForce(x, "costs supply if column = 0;costs supply + 1 if column = 1;bars if column = 2");
         DUE.is(18, "attack that costs too much", x.attack(0, 1), -3);
         DUE.is(18, "attack that costs all", x.attack(0, 0), 1);
         DUE.is(18, "SUPPLY", x.of(0, 0), 0);
@@ -223,7 +223,7 @@ public final class FrontTest {
             DUE.is(20, "show(" + w[0] + ", " + w[1] + ")", x.show(w[0], w[1]), -1);
         }
         // each sign is read by the tempers that the ones ahead of it left
-        Due.inForce(x, "reads 10 - temper % 10 if side = 0");
+        DUE.inForce(x, "reads 10 - temper % 10 if side = 0");
         x.sign(5, 0, 1, 6);
         x.sign(6, 1, 1, 7);
         DUE.is(20, "show(5, 0)", x.show(5, 0), 3);
@@ -235,7 +235,7 @@ public final class FrontTest {
         DUE.is(21, "pass()", x.pass(), 1);
         DUE.is(21, "of(0, 0)", x.of(0, 0), 53);
         DUE.is(21, "of(1, 0)", x.of(1, 0), 53);
-        Due.inForce(x, "feeds supply - 50 + side;feeds 99 if day = 2;feeds 200 if day = 3");
+        DUE.inForce(x, "feeds supply - 50 + side;feeds 99 if day = 2;feeds 200 if day = 3");
         DUE.is(21, "pass()", x.pass(), 2);
         DUE.is(21, "of(0, 0)", x.of(0, 0), 56);
         DUE.is(21, "of(1, 0)", x.of(1, 0), 57);
@@ -294,10 +294,21 @@ public final class FrontTest {
         DUE.is(22, "undo()", x.undo(), 3);
         DUE.is(22, "count(11)", x.count(11), 6);
         // more than are kept, and then not at all: the ones ahead are there still
-        DUE.is(22, "orders()", Due.orders(x, "pass times 20;attack 0 at 7"), -3);
+        DUE.is(22, "orders()", Due.orders(x, "show 0 to 0 times 20;attack 0 at 7"), -3);
         DUE.is(22, "count(3)", x.count(3), 2);
         DUE.is(22, "undo()", x.undo(), 3);
         DUE.is(22, "count(11)", x.count(11), 5);
+        DUE.is(22, "undo()", x.undo(), 3);
+        DUE.is(22, "undo()", x.undo(), -3);
+        x.men(1, 5, 3);
+        x.men(0, 5, 3);
+        DUE.is(22, "attack(1, 5)", x.attack(1, 5), 0);
+        DUE.is(22, "shift(0, 5, 3)", x.shift(0, 5, 3), 0);
+        DUE.is(22, "undo() of what told 0", x.undo(), 1);
+        DUE.is(22, "at(5, 1)", x.at(5, 1), 3);
+        DUE.is(22, "undo() of what told 0", x.undo(), 0);
+        DUE.is(22, "at(5, 2)", x.at(5, 2), 3);
+        DUE.is(22, "of(1, 0)", x.of(1, 0), 62);
     }
 
     private static void undoIsCleared() {

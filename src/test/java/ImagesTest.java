@@ -6,6 +6,7 @@ public final class ImagesTest {
         allGoneBackTo();
         whatImagesDoNotKeep();
         twoImages();
+        imagesKeepLaws();
         counts();
         status();
         DUE.end();
@@ -157,6 +158,25 @@ public final class ImagesTest {
         x.pass();
         x.back(2);
         DUE.is(41, "undo() behind a back() that was refused", x.undo(), 3);
+    }
+
+    private static void imagesKeepLaws() {
+        HyphenWar x = new HyphenWar();
+        x.image(1);
+        DUE.inForce(x, "costs 11");
+        x.image(0);
+        x.back(1);
+        DUE.is(41, "at(0, 3)", x.at(0, 3), 5);
+        DUE.inForce(x, "costs 12");
+        DUE.is(41, "at(0, 3), the other law 0", x.at(0, 3), 12);
+        x.back(0);
+        DUE.is(41, "at(0, 3), the first law 0", x.at(0, 3), 11);
+        // many long texts, one behind the other
+        for (int i = 0; i < 12; i++) {
+            x.back(1);
+            DUE.inForce(x, "costs 1;".repeat(10) + "costs " + "1+".repeat(38) + i);
+            DUE.is(41, "at(0, 3)", x.at(0, 3), 38 + i);
+        }
     }
 
     private static void counts() {

@@ -31,15 +31,15 @@ public final class PaperTest {
         pushes(x, 0, 6, 30, 0xcf);
         pushes(x, 1, 1, 5, 32);
         // 20, 18, 16, 14, 12, 10, 8, 6 for 50 together: 6, 8, 14, 16 are dearer than 6, 8, 14 with column 5 not to be had
-        Due.inForce(x, "costs 20 - column * 2");
+        DUE.inForce(x, "costs 20 - column * 2");
         pushes(x, 0, 4, 44, 0xcc);
-        Due.inForce(x, "costs 25");
+        DUE.inForce(x, "costs 25");
         pushes(x, 0, 2, 50, 3);
-        Due.inForce(x, "costs 50 if column > 1;costs 26 if column < 2");
+        DUE.inForce(x, "costs 50 if column > 1;costs 26 if column < 2");
         pushes(x, 0, 1, 26, 1);
-        Due.inForce(x, "costs 51");
+        DUE.inForce(x, "costs 51");
         pushes(x, 0, 0, 0, 0);
-        Due.inForce(x, "costs 0;bars if column = 0");
+        DUE.inForce(x, "costs 0;bars if column = 0");
         pushes(x, 0, 5, 0, 0xce);
         x.attack(0, 1);
         x.attack(0, 1);
@@ -163,7 +163,7 @@ public final class PaperTest {
         x.forget();
         x.tell(1, 0);
         DUE.is(36, "which()", x.which(), 0x0f);
-        Due.inForce(x, "reads 90 if sign = 6;reads 0 - 90 if sign = 7");
+        DUE.inForce(x, "reads 90 if sign = 6;reads 0 - 90 if sign = 7");
         x.forget();
         x.tell(1, 20);
         DUE.is(36, "which(), by law", x.which(), 0x40);
@@ -254,7 +254,7 @@ public final class PaperTest {
         DUE.is(38, "decades(5, 60), no day left", x.decades(5, 60), 0);
         DUE.is(39, "drawn(4, 0)", x.drawn(4, 0), 0);
         x.terms(0, 0);
-        Due.inForce(x, "feeds 0 if day > 1;bars if column = 4");
+        DUE.inForce(x, "feeds 0 if day > 1;bars if column = 4");
         DUE.is(38, "decades(5, 60), by law", x.decades(5, 60), 0);
         DUE.is(39, "drawn(1, 3), fed on two days", x.drawn(1, 3), 56);
         DUE.is(38, "decades(0, 1)", x.decades(0, 1), 0);

@@ -48,7 +48,7 @@ public final class SignsAndWordsTest {
         x.men(0, 0, 30);
         x.terms(0, 12);
         x.terms(2, 6);
-        Due.inForce(x, "reads column + line + men + foes if sign = 0;reads sign * 10 if sign > 2;reads 0 - supply if sign = 1;"
+        DUE.inForce(x, "reads column + line + men + foes if sign = 0;reads sign * 10 if sign > 2;reads 0 - supply if sign = 1;"
                 + "reads day + mood if sign = 3;reads temper - side if sign = 4");
         DUE.is(6, "reads(0, 0, 0): the four words are -1", x.reads(0, 0, 0), -4);
         DUE.is(6, "reads(1, 1, 0): the nearest", x.reads(1, 1, 0), -20);
@@ -96,7 +96,7 @@ public final class SignsAndWordsTest {
         DUE.is(8, "count(12)", x.count(12), 1);
         DUE.is(8, "count(13)", x.count(13), 4);
         DUE.is(8, "pass()", x.pass(), 18);
-        Due.inForce(x, "costs mood * 10 + day");
+        DUE.inForce(x, "costs mood * 10 + day");
         DUE.is(8, "at(0, 3)", x.at(0, 3), 58);
     }
 
@@ -212,6 +212,13 @@ public final class SignsAndWordsTest {
         // 3,515,625 of 3,516,905 and 390,625 of 391,905
         DUE.is(28, "ask(1) behind all HEARD", x.ask(1), 999636 - 996733);
         DUE.is(28, "count(0)", x.count(0), 8);
+        x.forget();
+        for (int word = 7; word >= 0; word--) {
+            x.word(word, 0, 1, 10);
+            x.word(word, 1, 1, 0);
+            DUE.is(28, "ask(0)", x.ask(0), word);
+            DUE.is(28, "ask(1)", x.ask(1), 1000000);
+        }
         DUE.is(28, "ask(-1)", x.ask(-1), -1);
         DUE.is(28, "ask(2)", x.ask(2), -1);
     }

@@ -115,6 +115,14 @@ public final class TextsTest {
         lawFault("costs1if2<3;bars if(1=1)", -1);
         lawFault("Bars", 0);
         lawFault("bar s", 0);
+        lawFault("barsz", 0);
+        lawFault("barsa", 0);
+        lawFault("bars0", 4);
+        lawFault("bars9", 4);
+        lawFault("bars`", 4);
+        lawFault("bars{", 4);
+        lawFault("costs 1/", 8);
+        lawFault("costs 1:", 7);
         lawFault("barsif 1 = 1", 0);
         lawFault("attack 0 at 0", 0);
         lawFault("pass", 0);
@@ -258,14 +266,14 @@ public final class TextsTest {
     /** What a sum is, by an attack's cost; -1 where it is broken. */
     private static void sum(String text, int due) {
         HyphenWar x = new HyphenWar();
-        Due.inForce(x, "costs 99;costs " + text);
+        DUE.inForce(x, "costs 99;costs " + text);
         DUE.is(13, text, x.at(0, 3), due == -1 ? 99 : due);
     }
 
     /** Whether a test is so, by a bar; what is broken doesn't hold. */
     private static void test(String text, boolean due) {
         HyphenWar x = new HyphenWar();
-        Due.inForce(x, "bars if " + text);
+        DUE.inForce(x, "bars if " + text);
         DUE.is(13, text, x.at(0, 5), due ? 1 : 0);
     }
 
@@ -297,6 +305,10 @@ public final class TextsTest {
         test("2 = 3", false);
         test("not 2 = 3", true);
         test("not not 2 = 3", false);
+        test("not not not 2 = 3", true);
+        test("not not not not 2 = 3", false);
+        test("(2 = 3 or 1 = 1)", true);
+        test("((2 = 3 or 1 = 2) or (1 = 1 and 2 = 2 and 3 = 3))", true);
         test("not (2 = 3 or 1 = 1)", false);
         test("not 1 = 1 or 1 = 1", true);
         test("not 1 = 2 and 1 = 2", false);
@@ -334,7 +346,7 @@ public final class TextsTest {
         for (int i = 0; i < words.length; i++) {
             String ten = i == 1 || i == 4 ? words[i] + " + 10" : words[i];
             String less = i == 5 || i == 6 || i == 8 ? words[i] + " - 30" : words[i];
-            Due.inForce(x, "costs " + words[i] + ";feeds " + ten + ";reads " + less + ";bars if " + words[i] + " = " + costs[0][i]);
+            DUE.inForce(x, "costs " + words[i] + ";feeds " + ten + ";reads " + less + ";bars if " + words[i] + " = " + costs[0][i]);
             for (int side = 0; side < 2; side++) {
                 DUE.is(13, "costs " + words[i], x.at(4, 3 + side), costs[side][i]);
                 DUE.is(13, "feeds " + ten, x.of(side, 2), feeds[side][i]);
@@ -347,7 +359,7 @@ public final class TextsTest {
 
     private static void lawsHold() {
         HyphenWar x = new HyphenWar();
-        Due.inForce(x, "costs 1;costs 2 if column < 4;costs 3 / line;costs 4 if 1 / line = 1;costs 6 if column = 2;feeds 7 if day > 0;"
+        DUE.inForce(x, "costs 1;costs 2 if column < 4;costs 3 / line;costs 4 if 1 / line = 1;costs 6 if column = 2;feeds 7 if day > 0;"
                 + "bars if column = 5;bars if column = 6 and 1 / line = 0;feeds 150 if side = 1;costs 0 - 1 if column = 7;costs 100 if column = 6");
         int[] costs = {2, 2, 6, 2, 1, 1, 99, 0};
         for (int c = 0; c < 8; c++) {
@@ -405,6 +417,9 @@ public final class TextsTest {
         // line 0 goes on, at 1 they are alike: latest is 1, then 0
         DUE.is(14, "latest", Due.orders(x, "attack 0 at 0;pass if latest = 1;attack 0 at 1;show 6 to 1 if latest = 0;pass if latest = 1"), 4);
         DUE.is(14, "words of orders", Due.orders(x, "pass times 4 if line 3 + line 0 + done * 10 = 2 and supply 0 > supply 1 - 30 and temper 1 = 38 and day = 8"), 1);
+        x.image(0);
+        DUE.is(14, "SUMS by words", Due.orders(x, "show 0 to 1 if supply 0 = 62;show 0 to 1 if supply 1 = 77;show 0 to 0 if temper 0 = 20;show 0 to 0 if line 1 = 0"), 4);
+        x.back(0);
         DUE.is(14, "SUMS by words", Due.orders(x, "show line 3 + 5 to temper 0 / 20;pass if temper 1 = 47 and done = 1"), 2);
         DUE.is(14, "shift by less than 0", Due.orders(x, "shift 1 at 4 by 0 - 2"), 1);
         DUE.is(14, "MEN", x.at(4, 2), 1);
