@@ -178,6 +178,13 @@ public final class SignsAndWordsTest {
         x.word(0, 0, 1, 9);
         DUE.is(27, "probably()", x.probably(), 1000000);
         x.forget();
+        x.word(0, 0, 1, 1);
+        x.hear(0, 1);
+        DUE.is(27, "probably(), one part in all", x.probably(), 1000000);
+        x.word(0, 0, 1, 0);
+        x.word(0, 1, 1, 1);
+        DUE.is(27, "probably(), one part in all", x.probably(), 0);
+        x.forget();
         x.word(1, 0, 1, 10);
         x.word(1, 1, 1, 9);
         for (int i = 0; i < 8; i++) {
