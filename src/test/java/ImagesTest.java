@@ -4,6 +4,8 @@ public final class ImagesTest {
 
     public static void main(String[] args) {
         allGoneBackTo();
+        imagesStay();
+        doneAgain();
         whatImagesDoNotKeep();
         twoImages();
         imagesKeepLaws();
@@ -85,29 +87,47 @@ public final class ImagesTest {
 
     private static void allGoneBackTo() {
         HyphenWar x = new HyphenWar();
-        long empty = sumOfAll(x);
-        DUE.is(40, "image(1)", x.image(1), 0);
         setUp(x);
         long set = sumOfAll(x);
         DUE.is(40, "image(0)", x.image(0), 0);
         DUE.is(40, "all behind image(0)", sumOfAll(x), set);
         DUE.is(40, "count(3) behind image(0)", x.count(3), 3);
         change(x);
-        long changed = sumOfAll(x);
         DUE.is(41, "back(0)", x.back(0), 0);
         DUE.is(41, "all", sumOfAll(x), set);
         DUE.is(41, "count(2)", x.count(2), 1);
         DUE.is(41, "force(1)", x.force(1), -2);
         DUE.is(41, "count(3)", x.count(3), 0);
         DUE.is(41, "undo()", x.undo(), -3);
+    }
+
+    private static void imagesStay() {
+        HyphenWar x = new HyphenWar();
+        long empty = sumOfAll(x);
+        x.image(1);
+        setUp(x);
+        long set = sumOfAll(x);
+        x.image(0);
         change(x);
-        DUE.is(41, "all", sumOfAll(x), changed);
-        DUE.is(41, "back(0) again", x.back(0), 0);
-        DUE.is(41, "all", sumOfAll(x), set);
         DUE.is(41, "back(1)", x.back(1), 0);
         DUE.is(41, "all as new", sumOfAll(x), empty);
         DUE.is(41, "back(0), images stay", x.back(0), 0);
         DUE.is(41, "all", sumOfAll(x), set);
+    }
+
+    /** What is done behind back() is as it was done the first time. */
+    private static void doneAgain() {
+        HyphenWar x = new HyphenWar();
+        setUp(x);
+        x.image(0);
+        change(x);
+        long changed = sumOfAll(x);
+        x.back(0);
+        change(x);
+        DUE.is(41, "all", sumOfAll(x), changed);
+        x.back(0);
+        change(x);
+        DUE.is(41, "all", sumOfAll(x), changed);
     }
 
     private static void whatImagesDoNotKeep() {

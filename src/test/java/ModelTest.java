@@ -36,7 +36,8 @@ public final class ModelTest {
 
     private void run(int run) {
         setUp();
-        while (calls < 500) {
+        // a text and what is asked behind it are 25 calls at most, and the document ends at 512
+        while (calls <= 512 - 25) {
             if (!call()) {
                 wrong++;
                 System.out.println("run " + run + ":\n" + log);
