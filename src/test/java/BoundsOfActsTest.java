@@ -348,7 +348,16 @@ public final class BoundsOfActsTest {
             bounds.are("drawn(), " + d[2] + " days", new long[] {x.drawn(0, 3), x.drawn(1, 3)}, 50 + d[2], 50 + d[2]);
             bounds.is("count(11), on paper", x.count(11), d[0]);
         }
-        // seed 5: side 0 attacks at 4, sign 0 to side 0, nothing, side 1 attacks at 0
+        // seed 5: side 0 attacks at 4, sign 0 to side 0, nothing, side 1 attacks at 0; seed 3: sign 0 to side 0
+        HyphenWar z = new HyphenWar();
+        z.men(0, 4, 1);
+        z.sign(0, 0, 0, 9);
+        int[][] last = {{997, 1, 29}, {998, 1, 20}, {999, 0, 20}};
+        for (int[] d : last) {
+            z.terms(0, d[0]);
+            bounds.are("attack and sign from " + d[0], new long[] {z.decades(5, 60), z.drawn(4, 0), z.drawn(0, 4)}, d[1], d[1], d[2]);
+        }
+        bounds.are("no sign at 999", new long[] {z.decades(3, 60), z.drawn(0, 4)}, 0, 20);
         HyphenWar y = new HyphenWar();
         y.sign(0, 0, 0, 9);
         y.sign(0, 0, 1, 7);
@@ -463,7 +472,8 @@ public final class BoundsOfActsTest {
     private static void backToAll() {
         bounds.of(IV, "BACK to one all that it keeps is as it was then (IMAGES stay).");
         Bounds.Call[] changes = {x -> x.men(1, 7, 3), x -> x.sign(3, 0, 0, -6), x -> x.sign(3, 1, 1, 0), x -> x.word(2, 0, 0, 0), x -> x.word(2, 1, 1, 2), x -> x.terms(0, 77),
-            x -> x.terms(1, 4), x -> x.terms(2, 1), x -> x.hear(2, 0), x -> x.tell(1, 20), x -> x.forget(), x -> Due.law(x, "costs 33"), x -> x.force(-1), x -> x.attack(0, 1),
+            x -> x.terms(1, 5), x -> x.terms(2, 1), x -> x.hear(2, 0), x -> x.tell(1, 20), x -> x.forget(), x -> x.forget() + x.hear(2, 0), x -> x.forget() + x.hear(1, 1),
+            x -> x.forget() + x.tell(1, 6), x -> x.forget() + x.tell(0, 0), x -> Due.law(x, "costs 33"), x -> x.force(-1), x -> x.attack(0, 1),
             x -> x.shift(0, 1, 1), x -> x.show(3, 0), x -> x.pass(), x -> x.undo(), x -> Due.orders(x, "pass;show 3 to 0")};
         for (int i = 0; i < changes.length; i++) {
             HyphenWar x = full();

@@ -365,6 +365,29 @@ public final class BoundsOfPaperTest {
         pushes(z, 0, 2, 31, 129);
         bounds.force(z, "costs 0");
         pushes(z, 0, 8, 0, 255);
+        pushedByEach();
+    }
+
+    /** What bars, COSTS and SUPPLY are of the side that pushes. */
+    private static void pushedByEach() {
+        HyphenWar x = bounds.under("costs 10+side*15;bars if side=1 and column=7;bars if side=0 and column=0");
+        for (int c = 0; c < 8; c++) {
+            x.men(c / 4, c, 3);
+        }
+        pushes(x, 0, 3, 30, 14);
+        pushes(x, 1, 2, 50, 48);
+        for (int i = 0; i < 3; i++) {
+            x.attack(0, 1);
+        }
+        pushes(x, 0, 2, 20, 12);
+        x.attack(0, 2);
+        pushes(x, 0, 1, 10, 4);
+        pushes(x, 1, 2, 50, 48);
+        x.attack(1, 4);
+        pushes(x, 1, 1, 25, 16);
+        x.attack(1, 4);
+        pushes(x, 1, 0, 0, 0);
+        pushes(x, 0, 1, 10, 4);
     }
 
     private static void level() {

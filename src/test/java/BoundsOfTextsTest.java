@@ -61,6 +61,16 @@ public final class BoundsOfTextsTest {
         bounds.is("orders() that end at the last byte", Due.orders(x, "pass;" + " ".repeat(391) + "pass"), 2);
         bounds.lawFault("bars" + " ".repeat(395) + "x", 399);
         bounds.lawFault("bars;" + " ".repeat(395), 400);
+        // one behind the other, each with its 400 bytes
+        HyphenWar z = new HyphenWar();
+        String many = "1+".repeat(40);
+        for (int i = 0; i < 6; i++) {
+            String law = "costs " + many + "1" + i;
+            bounds.is("law() of 400 bytes", Due.law(z, law + " ".repeat(400 - law.length())), i);
+            bounds.is("compare(" + i + ")", z.compare(i), 16 * (50 + i));
+            String orders = "pass times 2;show " + many + "1-41 to [[" + i + "%2]]";
+            bounds.is("orders() of 400 bytes", Due.orders(z, orders + " ".repeat(400 - orders.length())), 3);
+        }
         HyphenWar y = new HyphenWar();
         for (int i = 1; i <= 20; i++) {
             bounds.is("feed(), time " + i, y.feed(0, 0, 0, 0, 0), 20 * i);
@@ -168,6 +178,8 @@ public final class BoundsOfTextsTest {
         bounds.test("0-1<0", 1);
         bounds.test("not 1=1", 0);
         bounds.test("not not 1=1", 1);
+        bounds.test("not not not 1=1", 0);
+        bounds.test("not not not not 1=1", 1);
         // "not" binds most
         bounds.test("not 1=2 and 1=2", 0);
         bounds.test("not 1=1 or 1=1", 1);
@@ -258,6 +270,8 @@ public final class BoundsOfTextsTest {
         bounds.lawFault("costs " + "1+".repeat(49) + "1", FINE);
         bounds.lawFault("costs " + "1+".repeat(50) + "1", 106);
         bounds.lawFault("costs " + "1+".repeat(50) + "men", 106);
+        bounds.lawFault("costs " + "1+".repeat(50), 106);
+        bounds.lawFault("costs " + "1+".repeat(50) + ";bars", 106);
         bounds.lawFault("costs " + "day+".repeat(49) + "day", FINE);
         bounds.lawFault("costs " + "day+".repeat(50) + "day", 206);
         bounds.lawFault("costs " + "day+".repeat(50) + "1", 206);
@@ -731,8 +745,8 @@ public final class BoundsOfTextsTest {
         bounds.is("what the words are", Due.orders(x, so), 4);
         HyphenWar y = new HyphenWar();
         for (int c = 0; c < 8; c++) {
-            y.men(0, c, 1);
-            bounds.is("line " + c, Due.orders(y, "attack 0 at " + c + ";show 0 to 0 if line " + c + "=1"), 2);
+            y.men(0, c, 5);
+            bounds.is("line " + c, Due.orders(y, "attack 0 at " + c + ";show 0 to 0 if line " + c + "=1;show 0 to 0 if line " + c + "=1"), 3);
         }
         y.sign(1, 0, 0, 7);
         y.show(1, 0);
