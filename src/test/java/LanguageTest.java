@@ -26,6 +26,7 @@ public final class LanguageTest {
         words(bare);
         classes();
         methodLengths(source);
+        objectsMade(source);
         callsDeep(bare);
         System.out.println(wrong == 0 ? "the rules are kept" : wrong + " rules are not kept");
         if (wrong != 0) {
@@ -135,6 +136,27 @@ public final class LanguageTest {
                 from = -1;
             }
         }
+    }
+
+    /** But for what a law and an image keep, all rows are made with the object: no other call makes any. */
+    private static void objectsMade(String source) {
+        Set<String> makers = new TreeSet<>();
+        String method = "";
+        String end = "";
+        for (String line : source.split("\n")) {
+            Matcher head = Pattern.compile("^(    |        )(?:[a-zA-Z][^=;(]* )?(\\w+)\\([^=;]*\\) \\{$").matcher(line);
+            if (head.find() && !line.trim().matches("(for|if|while|switch|do) .*")) {
+                method = head.group(2);
+                end = head.group(1) + "}";
+            }
+            if (line.matches(".*\\bnew [A-Za-z].*") && !method.isEmpty()) {
+                makers.add(method);
+            }
+            if (line.equals(end)) {
+                method = "";
+            }
+        }
+        rule(12, makers.equals(Set.of("law", "image", "Text", "HyphenWar")), "objects are made by " + makers);
     }
 
     /** Follows the names of methods (those of one name as one), recursion once: that is who calls whom. */
